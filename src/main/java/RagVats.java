@@ -547,7 +547,7 @@ public final class RagVats {
         }
 
         boolean has(int pair) {
-            return isBelow(pair, number) && pair < MOST_PAIRS;
+            return pair >= 0 && pair < number && pair < MOST_PAIRS;
         }
 
         int add(int newMark, int newSize) {
@@ -601,7 +601,7 @@ public final class RagVats {
         }
 
         boolean has(int team) {
-            return isBelow(team, number) && team < MOST_TEAMS;
+            return team >= 0 && team < number && team < MOST_TEAMS;
         }
 
         int add(int newSkill) {
@@ -664,7 +664,7 @@ public final class RagVats {
         }
 
         boolean has(int place) {
-            return isBelow(place, number) && place < MOST_FELTS;
+            return place >= 0 && place < number && place < MOST_FELTS;
         }
 
         void add(int newMark, int newGrade, int newSheets) {

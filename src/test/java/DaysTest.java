@@ -10,6 +10,7 @@ final class DaysTest {
         gradesByTheWearAhead();
         wearsUpToFifty();
         pressesTheFirstPosts();
+        pressesOneSheetOfAPost();
         onePostForEachTeamAndDay();
         countsAll();
         refusesDays();
@@ -228,6 +229,29 @@ final class DaysTest {
         for (int vat = 0; vat < 3; vat++) {
             Checks.due("pulp of " + vat, vat == 0 ? 14 : 4, mill.about(vat, 0));
         }
+    }
+
+    private static void pressesOneSheetOfAPost() {
+        RagVats mill = Checks.withWater(0);
+        mill.fill(0, 0, 40);
+        Checks.beatTo(mill, 0, 60);
+        int[] skills = {12, 11, 2};
+        for (int team = 0; team < 3; team++) {
+            mill.pair(team, 1);
+            mill.team(skills[team]);
+            mill.place(team, 0, team);
+        }
+        Checks.due("12, 11 and 2", 25, mill.pass(1));
+        Checks.due("one post is left", 1, mill.count(6));
+        duePost(mill, 0, 2, 0, 1);
+        Checks.due("one sheet of it is pressed", 1, mill.loft(2, 0));
+        Checks.due("all of mark 0", 12, mill.loft(0, 0));
+        Checks.due("all are counted", 24, mill.count(7));
+        mill.place(1, -1, -1);
+        mill.place(2, -1, -1);
+        Checks.due("12", 12, mill.pass(1));
+        Checks.due("the sheet that was left, too", 2, mill.loft(2, 0));
+        Checks.due("the row is empty", 0, mill.count(6));
     }
 
     private static void onePostForEachTeamAndDay() {

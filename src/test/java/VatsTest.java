@@ -49,6 +49,8 @@ final class VatsTest {
             Checks.refused("fill a full vat, pounds " + pounds, mill, Checks.ARGUMENT, () -> mill.fill(0, 0, pounds));
         }
         Checks.refused("fill a vat that is not empty", mill, Checks.STATE, () -> mill.fill(0, 0, 1));
+        mill.fill(3, 1, 1);
+        Checks.refused("fill a vat with one pound", mill, Checks.STATE, () -> mill.fill(3, 1, 1));
         Checks.refused("fill it with another sort", mill, Checks.STATE, () -> mill.fill(0, 1, 1));
         Checks.refused("fill with more than are left", mill, Checks.STATE, () -> mill.fill(1, 0, 21));
         Checks.due("fill with all that are left", 0, mill.fill(1, 0, 20));

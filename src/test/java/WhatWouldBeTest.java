@@ -7,6 +7,7 @@ final class WhatWouldBeTest {
         ripensWhileTeamsGoOn();
         refusesRipe();
         foresees();
+        foreseesWithPosts();
         refusesForesee();
         advises();
         advisesByTheOthers();
@@ -105,6 +106,39 @@ final class WhatWouldBeTest {
         Checks.due("beat 30 on the fifth day", 22, mill.foresee(5, 4));
         Checks.due("the day", 5, mill.foresee(5, 0));
         Checks.due("pulp", 29 + 8, mill.foresee(5, 8));
+    }
+
+    /** A mill with posts on its felts, sheets in its loft, and other felts, coins and rags than at first. */
+    private static RagVats pressing() {
+        RagVats mill = Checks.withWater(6);
+        mill.fill(0, 0, 40);
+        mill.fill(1, 0, 20);
+        mill.fill(2, 1, 40);
+        mill.buy(3, 7);
+        mill.buy(2, 3);
+        for (int team = 0; team < 3; team++) {
+            mill.pair(8 - team, 1);
+            mill.team(12);
+            mill.place(team, team, team);
+        }
+        mill.pass(6);
+        return mill;
+    }
+
+    private static void foreseesWithPosts() {
+        int[] days = {1, 2, 3, 4, 10, 40};
+        for (int ahead : days) {
+            RagVats mill = pressing();
+            Checks.due("posts are on the felts", 2, mill.count(6));
+            Checks.due("felts are taken", 24, mill.count(3));
+            RagVats other = pressing();
+            other.pass(ahead);
+            for (int what = 0; what < 12; what++) {
+                int kind = what;
+                Checks.dueUnchanged("with posts: foresee " + ahead + " " + what, mill, other.count(what),
+                        () -> mill.foresee(ahead, kind));
+            }
+        }
     }
 
     private static void refusesForesee() {
