@@ -214,30 +214,26 @@ final class EdgesOfDaysTest {
 
     // "If these are 1 or more: they are a new post"
     private static void noPostOfNoSheets() {
-        RagVats mill = Mills.beaten(0, 26, 60);
+        RagVats mill = Checks.withWater(0);
+        mill.fill(0, 0, 40);
+        mill.fill(1, 0, 20);
+        for (int day = 0; day < 3; day++) {
+            Mills.dayWithWater(mill, 9);
+        }
+        mill.buy(3, 20);
         Mills.addTeam(mill, 0, 12, 0, 1);
-        Mills.addTeam(mill, 1, 12, 1, 1);
-        Mills.addTeam(mill, 0, 12, 2, 1);
-        Checks.due("12, none and 12", 24, mill.pass(1));
-        Checks.due("all are pressed", 0, mill.count(6));
-        mill.place(0, -1, 0);
-        Checks.due("none and 2", 2, mill.pass(1));
-        Checks.due("all are pressed", 0, mill.count(6));
+        Mills.addTeam(mill, 0, 12, 1, 1);
+        Mills.addTeam(mill, 1, 12, 2, 1);
+        Checks.due("12, 12 and 12", 36, mill.pass(1));
+        mill.place(0, 3, 0);
+        Checks.due("none at an empty vat, 12, and 8 of 8", 20, mill.pass(1));
+        Checks.due("12 and 12 were pressed, and no post is of none", 1, mill.count(6));
+        duePost(mill, 0, 2, 1, 8);
+        Checks.due("4 are left for the second, none for the third", 4, mill.pass(1));
+        Checks.due("all are pressed, and no post is of none", 0, mill.count(6));
         Checks.due("none are made any more", 0, mill.pass(1));
         Checks.due("no post", 0, mill.count(6));
-        RagVats three = Mills.beaten(0, 40, 60);
-        three.fill(1, 1, 12);
-        for (int day = 0; day < 3; day++) {
-            Mills.dayWithWater(three, 9);
-        }
-        Mills.addTeam(three, 0, 12, 0, 1);
-        Mills.addTeam(three, 0, 12, 1, 1);
-        Mills.addTeam(three, 1, 6, 2, 1);
-        Checks.due("12, 12 and 6 for 30 felts", 30, three.pass(1));
-        three.place(0, 3, 0);
-        Checks.due("none, 12 and 6", 18, three.pass(1));
-        Checks.due("24 were pressed", 0, three.count(6));
-        Checks.due("one sheet would be a post", 1, oneSheetLeft().count(6));
+        Checks.due("a single sheet is a post", 1, oneSheetLeft().count(6));
     }
 
     /** 12, 12 and a single sheet are made in one day, and the single one is left. */
@@ -262,9 +258,8 @@ final class EdgesOfDaysTest {
     private static void newPostsAreTheLast() {
         RagVats mill = Checks.withWater(0);
         mill.buy(3, 20);
-        int[] pounds = {40, 40, 40};
         for (int vat = 0; vat < 3; vat++) {
-            mill.fill(vat, vat, pounds[vat]);
+            mill.fill(vat, vat, 40);
         }
         for (int day = 0; day < 7; day++) {
             Mills.dayWithWater(mill, 9);
@@ -285,19 +280,19 @@ final class EdgesOfDaysTest {
         Checks.refused("no third post", mill, Checks.INDEX, () -> mill.post(2, 0));
     }
 
-    /** Two teams of these skills make so many sheets of the marks 0 and 1 in one day. */
-    private static RagVats madeByThree(int skill) {
+    /** Three teams of the skill 12 and of these have made sheets of the marks 0, 1 and 2 in one day, and 24 are pressed. */
+    private static RagVats madeByThree(int second, int third) {
         RagVats mill = Mills.beaten(0, 40, 60);
         Mills.addTeam(mill, 0, 12, 0, 1);
-        Mills.addTeam(mill, 0, 10, 1, 1);
-        Mills.addTeam(mill, 0, skill, 2, 1);
-        Checks.due("made", 22 + skill, mill.pass(1));
+        Mills.addTeam(mill, 0, second, 1, 1);
+        Mills.addTeam(mill, 0, third, 2, 1);
+        Checks.due("made", 12 + second + third, mill.pass(1));
         return mill;
     }
 
     // "up to 24 sheets": fewer
     private static void pressesTwentyThree() {
-        RagVats mill = madeByThree(1);
+        RagVats mill = madeByThree(10, 1);
         Checks.due("no post is left", 0, mill.count(6));
         Checks.due("all hang", 23, mill.count(7));
         Checks.due("all felts are free", 30, mill.count(3));
@@ -305,7 +300,7 @@ final class EdgesOfDaysTest {
 
     // "up to 24 sheets"; "those of this day as well"; "A post without sheets is gone."
     private static void pressesTwentyFour() {
-        RagVats mill = madeByThree(2);
+        RagVats mill = madeByThree(10, 2);
         Checks.due("no post is left", 0, mill.count(6));
         Checks.due("all hang", 24, mill.count(7));
         Checks.due("all felts are free", 30, mill.count(3));
@@ -314,12 +309,16 @@ final class EdgesOfDaysTest {
 
     // "part of a post, if it has more than are left of the 24"
     private static void pressesTwentyFive() {
-        RagVats mill = madeByThree(3);
+        RagVats mill = madeByThree(10, 3);
         Checks.due("one post is left", 1, mill.count(6));
         duePost(mill, 0, 2, 0, 1);
         Checks.due("two of it hang", 2, mill.loft(2, 0));
         Checks.due("24 hang", 24, mill.count(7));
         Checks.due("a felt is taken", 29, mill.count(3));
+        RagVats first = madeByThree(11, 2);
+        duePost(first, 0, 2, 0, 1);
+        Checks.due("one of it hangs", 1, first.loft(2, 0));
+        Checks.due("24 hang", 24, first.count(7));
         RagVats single = oneSheetLeft();
         Checks.due("a post that is not begun", 1, single.count(6));
         duePost(single, 0, 2, 0, 1);
@@ -329,7 +328,7 @@ final class EdgesOfDaysTest {
 
     // "from the first post on"; "their felts are free"
     private static void pressesOldPostsFirst() {
-        RagVats mill = madeByThree(8);
+        RagVats mill = madeByThree(10, 8);
         duePost(mill, 0, 2, 0, 6);
         mill.place(0, -1, -1);
         mill.place(2, -1, -1);
