@@ -709,7 +709,7 @@ public final class RagVats {
 
         void dropEmptyOnes() {
             int kept = 0;
-            for (int place = 0; place < number; place++) {
+            for (int place = 0; place < number && place < MOST_FELTS; place++) {
                 if (sheets[place] > 0) {
                     mark[kept] = mark[place];
                     grade[kept] = grade[place];
